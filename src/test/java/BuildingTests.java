@@ -240,6 +240,7 @@ final class BuildingTests {
         Check.equal("exchange(0, 2) at work", x.exchange(0, 2), 0);
         Check.equal("the route", Snapshot.route(x, 0), " [ 0 2 0 1 ]");
         exchangeWithoutProgress();
+        exchangeWithOneMeter();
     }
 
     private static void exchangeWithoutProgress() {
@@ -255,6 +256,18 @@ final class BuildingTests {
         Check.equal("exchange(0, 0) there", x.exchange(0, 0), 1);
         Check.equal("exchange(0, 1) there", x.exchange(0, 1), 0);
         Check.equal("the plow stays at its place", Snapshot.plow(x, 0), " 100 0 0 3 1 0 0 100");
+    }
+
+    private static void exchangeWithOneMeter() {
+        SnowRounds x = new SnowRounds();
+        x.addStreet(99, 0);
+        x.addStreet(300, 0);
+        x.addPlow(100, 0);
+        x.addStop(0, 0);
+        x.addStop(0, 1);
+        x.run(0, 20, 1);
+        Check.equal("one meter of place 1", Snapshot.plow(x, 0), " 100 0 0 2 1 1 0 100");
+        Check.refused("exchange(0, 0) with one meter", x, STATE, () -> x.exchange(0, 0));
     }
 
     private static void setTerms() {

@@ -262,6 +262,12 @@ final class HourTests {
         x.run(0, 20, 1);
         Check.equal("8 are needed of 5", Snapshot.plow(x, 0), " 5000 5 0 3 0 0 3 1053");
         Check.equal("the accounts", Snapshot.values(x), " 3 3 1 990 50 0 0 0 1000 10");
+        SnowRounds z = oneStreet(1001, 0);
+        z.setSpread(1);
+        z.addPlow(2000, 500);
+        z.addStop(0, 0);
+        z.run(0, 20, 1);
+        Check.equal("1001 grams need 2 kilograms", z.value(9), 2);
         SnowRounds y = oneStreet(2000, 0);
         y.setSpread(50);
         y.addPlow(2000, 500);

@@ -11,6 +11,7 @@ final class WhatIfTests {
         bestExchange();
         bestExchangeOfSeveral();
         bestExchangeAtWork();
+        lastPlace();
         bestExchangeRefuses();
         leastSpeed();
         leastSpeedIsNoThreshold();
@@ -160,6 +161,18 @@ final class WhatIfTests {
         y.addPlow(100, 0);
         Check.equal("the other plow has no route", y.bestExchange(1, 0, 0, 3), SnowRounds.NONE);
         otherPairsThanThePlows();
+    }
+
+    /** Behind the last place there is nothing to exchange with, also in a full route. */
+    private static void lastPlace() {
+        SnowRounds x = lane(100, 0, 2);
+        x.clearRoute(0);
+        x.addStop(0, 1);
+        Check.isTrue("street 0 is paid for", x.creditsIn(0, 1, 5) > 0);
+        Check.equal("one place", x.bestExchange(0, 0, 1, 5), SnowRounds.NONE);
+        SnowRounds y = lane(100, 2, 2, 2, 2, 2, 2, 2, 2, 2, 2, 2, 0);
+        y.setTerms(2, 20, 48, 10);
+        Check.equal("twelve places", y.bestExchange(0, 0, 1, 12), 10);
     }
 
     /** The plow works at place 0, and places 1 and 2 would better be exchanged. */
@@ -316,6 +329,15 @@ final class WhatIfTests {
         Check.equal("5 kilograms an hour", x.emptyIn(0, 20), 200);
         Check.equal("5 kilograms each second hour", x.emptyIn(0, 10), SnowRounds.NONE);
         Check.equal("no snow", x.emptyIn(0, 0), SnowRounds.NONE);
+        x.addPlow(100, 994);
+        x.addStop(1, 0);
+        Check.equal("one kilogram is left", x.emptyIn(0, 0), SnowRounds.NONE);
+        x.addPlow(100, 1);
+        x.addStop(2, 0);
+        Check.equal("the plows load all at once", x.emptyIn(0, 0), 1);
+        for (int i = 0; i < 4; i++) {
+            x.undo();
+        }
         Check.changesNothing("emptyIn", x, () -> x.emptyIn(0, 20));
         x.deliver(1);
         Check.equal("one kilogram more", x.emptyIn(0, 20), SnowRounds.NONE);
