@@ -335,10 +335,18 @@ final class WhatIfTests {
         x.addPlow(100, 1);
         x.addStop(2, 0);
         Check.equal("the plows load all at once", x.emptyIn(0, 0), 1);
-        for (int i = 0; i < 4; i++) {
-            x.undo();
-        }
-        Check.changesNothing("emptyIn", x, () -> x.emptyIn(0, 20));
+        x.undo();
+        x.undo();
+        x.run(0, 0, 1);
+        x.addPlow(100, 1);
+        x.addStop(2, 0);
+        Check.equal("the last kilogram", x.emptyIn(0, 0), 1);
+        x = new SnowRounds();
+        x.addStreet(1000, 0);
+        x.addPlow(1000, 5);
+        x.addStop(0, 0);
+        SnowRounds y = x;
+        Check.changesNothing("emptyIn", y, () -> y.emptyIn(0, 20));
         x.deliver(1);
         Check.equal("one kilogram more", x.emptyIn(0, 20), SnowRounds.NONE);
         x.undo();
