@@ -1,18 +1,23 @@
 /** Runs the project's own tests; ends with exit code 1 if a check fails or a promise has none. */
 public final class AllTests {
+    /** Takes the path of the program and the path of the document. */
     public static void main(String[] args) throws Exception {
+        if (args.length != 2) {
+            System.out.println("usage: AllTests SnowRounds.java DOC.md");
+            System.exit(1);
+        }
         BuildingTests.runAll();
         HourTests.runAll();
         ReadingTests.runAll();
         WhatIfTests.runAll();
         TextTests.runAll();
         StateTests.runAll();
+        SentenceTests.runAll();
         FaceTests.runAll();
         RoomTests.runAll();
         ModelTests.runAll();
-        if (args.length > 0) {
-            LanguageTests.runAll(args[0]);
-        }
+        LanguageTests.runAll(args[0]);
+        DocumentTests.runAll(args[1]);
         report();
     }
 
@@ -26,10 +31,18 @@ public final class AllTests {
                 System.out.println("promise " + promise + " has no test");
             }
         }
+        int sentences = 0;
+        for (Check.Claim claim : Check.claims()) {
+            sentences += claim.isSentence() ? 1 : 0;
+        }
         int failed = Check.failures();
-        System.out.println("own checks: " + (checks - failed) + " hold, " + failed + " do not");
+        System.out.println("own checks: " + (checks - failed) + " hold, " + failed + " do not; " + sentences
+                + " sentences of promises have tests");
         if (failed + without > 0) {
             System.exit(1);
         }
+    }
+
+    private AllTests() {
     }
 }
