@@ -35,13 +35,16 @@ public final class Mutants {
         {"Math.min", "Math.max"}, {"Math.max", "Math.min"}, {"return true", "return false"},
         {"return false", "return true"}, {"? 1 : 0", "? 0 : 1"}, {" !", " "}, {"(!", "("}, {"-temp", "temp"},
         {"return -", "return "}, {"(long) ", ""}, {"++;", "--;"}, {"--;", "++;"},
+        {"'0'", "'/'"}, {"'0'", "'1'"}, {"'9'", "'8'"}, {"'9'", "':'"},
     };
     private static final Pattern NUMBER = Pattern.compile("(?<![\\w.])\\d+(?!\\w)");
-    private static final Pattern STATEMENT = Pattern.compile("^ +(?!return|final|private|int |long |boolean "
+    private static final Pattern STATEMENT = Pattern.compile("^ ++(?!return|final|private|int |long |boolean "
             + "|[A-Z]\\w+ \\w+ =|throw|break|case)[^{}]*;$");
 
     private static final Pattern CLASS = Pattern.compile("^(?: {4})?[a-z ]* class (\\w+) \\{$");
     private static final Pattern METHOD = Pattern.compile("^(?: {4}| {8})(?:[a-zA-Z]\\w*(?:\\[])? )*(\\w+)\\([^;]*$");
+
+    private static final String NO_PROGRAM = "does not compile";
 
     private record Mutant(int line, String where, String was, String is, String program) {
         String told() {
@@ -64,6 +67,7 @@ public final class Mutants {
         int seen = 0;
         int known = 0;
         int unseen = 0;
+        int noPrograms = 0;
         for (int i = 0; i < mutants.size(); i++) {
             Mutant mutant = mutants.get(i);
             String answer = answers.get(i).get();
@@ -72,6 +76,8 @@ public final class Mutants {
             } else if (answer.equals("unseen")) {
                 unseen++;
                 out.println("UNSEEN line " + mutant.line() + ": " + mutant.told());
+            } else if (answer.equals(NO_PROGRAM)) {
+                noPrograms++;
             } else {
                 seen++;
                 if (args.length > 3) {
@@ -80,7 +86,7 @@ public final class Mutants {
             }
         }
         workers.shutdown();
-        out.println(mutants.size() + " breaks: " + seen + " seen, " + known + " that change no answer, " + unseen
+        out.println((mutants.size() - noPrograms) + " breaks that compile: " + seen + " seen, " + known + " that change no answer, " + unseen
                 + " unseen");
         System.exit(unseen == 0 ? 0 : 1);
     }
@@ -135,7 +141,7 @@ public final class Mutants {
         Path classes = Files.createTempDirectory("mutant");
         try {
             if (!compiles(mutant.program(), classes)) {
-                return "does not compile";
+                return NO_PROGRAM;
             }
             URL[] path = {classes.toUri().toURL(), new File(tests).toURI().toURL()};
             try (URLClassLoader loader = new URLClassLoader(path, ClassLoader.getPlatformClassLoader())) {
