@@ -6,16 +6,9 @@ public final class AllTests {
             System.out.println("usage: AllTests SnowRounds.java DOC.md");
             System.exit(1);
         }
-        BuildingTests.runAll();
-        HourTests.runAll();
-        ReadingTests.runAll();
-        WhatIfTests.runAll();
-        TextTests.runAll();
-        StateTests.runAll();
         SentenceTests.runAll();
-        FaceTests.runAll();
-        RoomTests.runAll();
-        ModelTests.runAll();
+        Check.each(BuildingTests::runAll, HourTests::runAll, ReadingTests::runAll, WhatIfTests::runAll,
+                TextTests::runAll, StateTests::runAll, FaceTests::runAll, RoomTests::runAll, ModelTests::runAll);
         LanguageTests.runAll(args[0]);
         DocumentTests.runAll(args[1]);
         report();
