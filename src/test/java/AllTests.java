@@ -1,9 +1,9 @@
 /** Runs the project's own tests; ends with exit code 1 if a check fails or a promise has none. */
 public final class AllTests {
-    /** Takes the path of the program and the path of the document. */
+    /** Takes the paths of the program, of the document and of the README, and a directory to write to. */
     public static void main(String[] args) throws Exception {
-        if (args.length != 2) {
-            System.out.println("usage: AllTests SnowRounds.java DOC.md");
+        if (args.length != 4) {
+            System.out.println("usage: AllTests SnowRounds.java DOC.md README.md directory");
             System.exit(1);
         }
         SentenceTests.runAll();
@@ -11,6 +11,7 @@ public final class AllTests {
                 TextTests::runAll, StateTests::runAll, FaceTests::runAll, RoomTests::runAll, ModelTests::runAll);
         LanguageTests.runAll(args[0]);
         DocumentTests.runAll(args[1]);
+        ReadmeTests.runAll(args[2], args[3]);
         report();
     }
 
